@@ -352,14 +352,10 @@ public final class LevelledInk {
         return filled;
     }
 
+    // Half a divisor more, and then down, also below 0: so a half goes to the greater number.
     private static int shiftOf(int axis, int s, int k) {
         int steps = axis == SKEW ? k : ROWS - 1 - k;
-        return rounded(s * steps, STEEPEST);
-    }
-
-    /** above by below, to the nearest whole number, a half to the greater one; below is above 0. */
-    private static int rounded(int above, int below) {
-        return below > 0 ? Math.floorDiv(2 * above + below, 2 * below) : 0;
+        return Math.floorDiv(s * steps + STEEPEST / 2, STEEPEST);
     }
 
     /** A row of numbers of one sort, or nothing. */
@@ -875,7 +871,7 @@ public final class LevelledInk {
         }
 
         int height() {
-            return rounded(sum, length);
+            return length > 0 ? (2 * sum + length) / (2 * length) : 0;
         }
 
         boolean covers(int k) {

