@@ -2,7 +2,7 @@ import java.lang.management.ManagementFactory;
 
 /** Calls make no objects: what an object needs is made with it, so that a long run stays in its room. */
 public final class RoomTest {
-    private static final int CALLS = 512, ROUNDS = 40;
+    private static final int CALLS = 440, CALLS_AT_ONCE = 22, ROUNDS = 40;
     private static final com.sun.management.ThreadMXBean THREADS =
         (com.sun.management.ThreadMXBean) ManagementFactory.getThreadMXBean();
 
@@ -42,7 +42,7 @@ public final class RoomTest {
 
     private static long round(LevelledInk x) {
         long sum = 0;
-        for (int i = 0; i < CALLS / 16; i++) {
+        for (int i = 0; i < CALLS / CALLS_AT_ONCE; i++) {
             sum += x.best(i % 2) + x.found(i % 2) + x.tried(i % 2, 3) + x.sharp(0, 5) + x.profile(1, 3, 4);
             sum += x.run(9, 3) + x.stroke(0, 5) + x.many(3) + x.baseline(2) + x.foot(3) + x.curl(4);
             sum += x.mean() + x.rest() + x.slope() + x.level() + x.shear(0, 1) + x.back();

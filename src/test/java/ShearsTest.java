@@ -38,8 +38,8 @@ public final class ShearsTest {
     }
 
     private static void shift() {
-        LevelledInk x = new LevelledInk();
         for (int s = -16; s <= 16; s++) {
+            LevelledInk x = new LevelledInk();
             for (int k = 0; k < 24; k++) {
                 Due.due("12: shift(0, " + s + ", " + k + ")", x.shift(SKEW, s, k), (long) Math.floor(s * k / 16.0 + 0.5));
             }
@@ -48,6 +48,7 @@ public final class ShearsTest {
                 Due.due("12: shift(1, " + s + ", " + r + ")", x.shift(SLANT, s, r), due);
             }
         }
+        LevelledInk x = new LevelledInk();
         Due.due("12: a half goes to the greater one", x.shift(SKEW, 8, 1), 1);
         Due.due("12: a half below 0 goes to the greater one", x.shift(SKEW, -8, 1), 0);
         Due.due("12: a half below 0 goes to the greater one", x.shift(SKEW, -8, 5), -2);
