@@ -19,6 +19,7 @@ public final class LineEdgesTest {
         strokesThatJustTouch();
         strokesThatDoNotTouch();
         strokesAreLinked();
+        strokesThatShrink();
         strokeRefused();
         feetOfRowThirtyOne();
         baselineOfOneDot();
@@ -196,6 +197,21 @@ public final class LineEdgesTest {
         stroke(x, 1, 1, 1, 0, 0, 5, 5);
         stroke(x, 2, 2, 2, 2, 3, 5, 5);
         x.due("run(2, 3)", 0).due("run(1, 3)", 1);
+    }
+
+    /** Nothing is left of RUNS that were there before, ahead of a call that asked for them. */
+    private static void strokesThatShrink() {
+        Asked x = drawn("20: a STROKE that loses RUNS", 4, "#...", ".#..", "..##").due("stroke(0, 1)", 3);
+        x.after("dot(2, 6, 0)", "dot(3, 6, 0)");
+        stroke(x, 0, 2, 2, 4, 5, 0, 1);
+        x.after("dot(1, 5, 0)");
+        stroke(x, 0, 1, 1, 4, 4, 0, 0);
+        x.after("dot(0, 4, 0)").due("stroke(0, 0)", UNKNOWN).due("run(0, 0)", UNKNOWN).due("many(2)", 0)
+            .due("many(3)", 0);
+        x = new Asked("20: a new PAGE").full().due("stroke(0, 0)", 768).after("page(2)", "dot(1, 9, 1)");
+        stroke(x, 0, 1, 1, 9, 9, 1, 1);
+        run(x, 0, 9, 1, 1, 0);
+        x.due("run(1, 0)", UNKNOWN).due("stroke(1, 0)", UNKNOWN);
     }
 
     private static void strokeRefused() {
