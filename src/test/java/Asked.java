@@ -49,7 +49,11 @@ final class Asked {
         int open = call.indexOf('(');
         Method method = CALLS.get(call.substring(0, open));
         Object[] arguments = new Object[method.getParameterCount()];
-        String[] texts = call.substring(open + 1, call.length() - 1).split(", *");
+        String inside = call.substring(open + 1, call.length() - 1);
+        String[] texts = inside.isEmpty() ? new String[0] : inside.split(", *");
+        if (texts.length != arguments.length) {
+            throw new IllegalStateException(about + ": " + call + " has not as many numbers as it takes");
+        }
         for (int i = 0; i < arguments.length; i++) {
             arguments[i] = number(texts[i]);
         }

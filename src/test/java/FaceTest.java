@@ -27,6 +27,8 @@ public final class FaceTest {
     private static final String[] FORBIDDEN = {
         "\\bthrow\\b", "\\bthrows\\b", "\\btry\\b", "\\bcatch\\b", "\\bsynchronized\\b", "\\bassert\\b", "->", "::",
         "\\bDouble\\b", "\\bFloat\\b", "\\bObject\\b", "Exact\\b", "\\bpackage\\b",
+        "\\bMath\\.(?!abs\\b|max\\b|min\\b|floorDiv\\b|floorMod\\b)", "\\bInteger\\.(?!bitCount\\b)",
+        "\\bLong\\.(?!MIN_VALUE\\b)", "\\bprotected\\b", "\\bstatic\\s*\\{",
         "\\bwhile\\s*\\(true\\)", "\\bSystem\\.(?!arraycopy\\b)", "\\bArrays\\.(?!fill\\b|copyOf\\b|copyOfRange\\b)",
     };
 
