@@ -30,7 +30,7 @@ public final class ReadmeTest {
     public static void main(String[] args) throws IOException {
         // The class stands in src/main/java of the project.
         Path project = Path.of(args[0]).toAbsolutePath().resolve("../../../..").normalize();
-        ReadmeTest test = new ReadmeTest(project);
+        ReadmeTest test = new ReadmeTest(project, Path.of(args[1]));
         test.shownCalls();
         test.constants();
         test.faults();
@@ -40,10 +40,10 @@ public final class ReadmeTest {
         Due.end();
     }
 
-    private ReadmeTest(Path project) throws IOException {
+    private ReadmeTest(Path project, Path shared) throws IOException {
         this.project = project;
         this.readme = Files.readAllLines(project.resolve("README.md"));
-        this.document = Files.readAllLines(project.resolve("../shared/DOC.md"));
+        this.document = Files.readAllLines(shared.resolve("DOC.md"));
     }
 
     private List<List<String>> blocks(String language) {
